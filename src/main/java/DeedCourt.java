@@ -49,12 +49,6 @@ public final class DeedCourt {
     private static final int EAST = 1;
     private static final int LARGER = 2;
 
-    /** The pairs in their order, each as two digits: the lesser field and the other; so its place in Sets, too. */
-    private static final int[] PAIRS = {
-        1, 2, 12, 3, 13, 23, 4, 14, 24, 34, 5, 15, 25, 35, 45,
-        6, 16, 26, 36, 46, 56, 7, 17, 27, 37, 47, 57, 67,
-        8, 18, 28, 38, 48, 58, 68, 78, 9, 19, 29, 39, 49, 59, 69, 79, 89};
-
     private final Shelf[] shelves;
     private final Tape tape;
     private final Land land;
@@ -347,14 +341,14 @@ public final class DeedCourt {
         land.fill(sets, year, land.asOf(year));
         int pairs = sets.pairs();
         for (int k = 0; k < pairs; k++) {
-            tally[k] = sets.at[PAIRS[k]];
+            tally[k] = sets.at[Sets.PAIRS[k]];
         }
         if (!sets.shrinkAll()) {
             return NONE;
         }
         int fewer = 0;
         for (int k = 0; k < pairs; k++) {
-            if (sets.at[PAIRS[k]] != tally[k]) {
+            if (sets.at[Sets.PAIRS[k]] != tally[k]) {
                 fewer++;
             }
         }
@@ -499,7 +493,7 @@ public final class DeedCourt {
             return refuse(STATE);
         }
         int pair = bestPair();
-        return greatestOf(pair) == 0 ? NONE : 100 * (PAIRS[pair] / 10) + PAIRS[pair] % 10;
+        return greatestOf(pair) == 0 ? NONE : 100 * (Sets.PAIRS[pair] / 10) + Sets.PAIRS[pair] % 10;
     }
 
     public int left(int year) {
@@ -810,7 +804,7 @@ public final class DeedCourt {
         int end = searched(year);
         for (int i = 0; i < Search.MOST_CHOICES && end == Search.FOUND; i++) {
             for (int k = 0; k < probe.pairs; k++) {
-                int way = Ways.only(probe.sets.at[PAIRS[k]]);
+                int way = Ways.only(probe.sets.at[Sets.PAIRS[k]]);
                 if (way != NONE) {
                     tally[k * WAYS + way]++;
                 }
@@ -920,6 +914,10 @@ public final class DeedCourt {
         int firstPart;
         long ground;
 
+        Field() {
+            start(FIELD, 0);
+        }
+
         void start(int newKind, int year) {
             kind = newKind;
             from = year;
@@ -972,6 +970,10 @@ public final class DeedCourt {
         boolean isNot;
         boolean dropped;
 
+        Deed() {
+            clear();
+        }
+
         void clear() {
             first = NONE;
             second = NONE;
@@ -1004,7 +1006,7 @@ public final class DeedCourt {
             int let = said;
             for (int w = 0; w < means.length; w++) {
                 if ((oldWords >> w & 1) != 0) {
-                    if (!isWay(means[w])) {
+                    if (means[w] == NONE) {
                         return ALL_WAYS;
                     }
                     let |= 1 << means[w];
@@ -1506,15 +1508,20 @@ public final class DeedCourt {
 
     /** The set of each two fields, how they are shrunk, and how that is taken back. */
     private static final class Sets {
-        private static final int SIDE = MOST_FIELDS;
+        /** The pairs in their order, each as two digits: the lesser field and the other; so its place, too. */
+        static final int[] PAIRS = {
+            1, 2, 12, 3, 13, 23, 4, 14, 24, 34, 5, 15, 25, 35, 45,
+            6, 16, 26, 36, 46, 56, 7, 17, 27, 37, 47, 57, 67,
+            8, 18, 28, 38, 48, 58, 68, 78, 9, 19, 29, 39, 49, 59, 69, 79, 89};
+        static final int SIDE = MOST_FIELDS;
         // A pair's set can lose no more than its eight ways, one a time.
         private static final int MOST_CHANGES = MOST_PAIRS * WAYS;
 
         /** The set of a to b at a * SIDE + b; of b to a it is always this one turned. */
         final int[] at;
+        int count;
         int changes;
         private final Ways rules;
-        private int count;
         private final int[] changedPlaces;
         private final int[] changedSets;
         /** Pairs of which it isn't yet looked at what follows: each at most once. */
@@ -1691,7 +1698,7 @@ public final class DeedCourt {
                 stand = FOUND;
             } else if (sets.shrinkAll()) {
                 stand = GOES;
-                untaken[0] = sets.at[PAIRS[0]];
+                untaken[0] = sets.at[Sets.PAIRS[0]];
             } else {
                 stand = ENDED;
             }
@@ -1704,7 +1711,7 @@ public final class DeedCourt {
                 untaken[chosen] &= ~way;
                 marks[chosen] = sets.changes;
                 choices++;
-                if (sets.keep(PAIRS[chosen], way) && sets.spread()) {
+                if (sets.keep(Sets.PAIRS[chosen], way) && sets.spread()) {
                     goAhead();
                 } else {
                     blinds++;
@@ -1728,7 +1735,7 @@ public final class DeedCourt {
         private void goAhead() {
             chosen++;
             if (chosen < pairs) {
-                untaken[chosen] = sets.at[PAIRS[chosen]];
+                untaken[chosen] = sets.at[Sets.PAIRS[chosen]];
             } else {
                 stand = FOUND;
             }
@@ -1793,7 +1800,7 @@ public final class DeedCourt {
             }
             int pairs = sets.pairs();
             for (int k = 0; k < pairs; k++) {
-                layPair(sets, PAIRS[k] / 10, PAIRS[k] % 10);
+                layPair(sets, Sets.PAIRS[k] / 10, Sets.PAIRS[k] % 10);
             }
         }
 
