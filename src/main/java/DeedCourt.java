@@ -1474,20 +1474,28 @@ public final class DeedCourt {
             }
             halves = new int[1024];
             for (int i = 0; i < 1024; i++) {
-                halves[i] = fromHalves(i >> 4 & 15, i >> 9 << 2, i & 15, (i >> 8 & 1) << 2);
+                halves[i] = fromLesser(i);
             }
         }
 
-        private static int fromHalves(int half, int shift, int otherHalf, int otherShift) {
-            int set = 0;
-            for (int way = 0; way < 4; way++) {
-                for (int other = 0; other < 4; other++) {
-                    if ((half >> way & 1) != 0 && (otherHalf >> other & 1) != 0) {
-                        set |= THREE[(way + shift) * WAYS + other + otherShift];
-                    }
-                }
+        /** What follows from the halves that a place tells: by places ahead of it, or of one way each by THREE. */
+        private int fromLesser(int place) {
+            int half = place & 240;
+            int otherHalf = place & 15;
+            int way = half & -half;
+            int other = otherHalf & -otherHalf;
+            if (half == 0 || otherHalf == 0) {
+                return 0;
             }
-            return set;
+            if (half != way) {
+                return halves[place - way] | halves[place - half + way];
+            }
+            if (otherHalf != other) {
+                return halves[place - other] | halves[place - otherHalf + other];
+            }
+            int row = Integer.bitCount((way >> 4) - 1) + (place >> 9 << 2);
+            int column = Integer.bitCount(other - 1) + ((place >> 8 & 1) << 2);
+            return THREE[row * WAYS + column];
         }
 
         /** What follows from two sets (of 8 bits each). */
