@@ -3,7 +3,6 @@ import java.util.Random;
 /** Promises 42 to 45: a land laid out in cells. */
 public final class CellsTest {
     private static final int BAD = -2;
-    private static final String[] WAYS = {"apart", "touch", "over", "edge", "inside", "round", "holds", "same"};
 
     private CellsTest() {
     }
@@ -39,7 +38,7 @@ public final class CellsTest {
         int[][] due = {{1, 2}, {1, 2, mate(1, 3), mate(2, 2)}, {1, 2, 3}, {3, 2, mate(3, 3), mate(0, 2)}, {3, 2},
             {1, 3, mate(3, 3), mate(0, 2)}, {1, 3}, {3, 3}};
         for (int way = 0; way < 8; way++) {
-            DeedCourt x = Due.land(2, "0 " + WAYS[way] + " 1");
+            DeedCourt x = Due.land(2, "0 " + Due.WAYS[way] + " 1");
             Due.is(45, "nothing is laid yet", x.laid(0, 1), -1);
             expect(x, due[way]);
             Due.is(45, "laid", x.laid(0, 1), way);
@@ -90,7 +89,7 @@ public final class CellsTest {
             for (int d = 0; d < deeds; d++) {
                 int a = random.nextInt(fields);
                 int b = (a + 1 + random.nextInt(fields - 1)) % fields;
-                Due.deed(x, a + " " + WAYS[random.nextInt(8)] + " or " + WAYS[3 + random.nextInt(5)] + " " + b);
+                Due.deed(x, a + " " + Due.WAYS[random.nextInt(8)] + " or " + Due.WAYS[3 + random.nextInt(5)] + " " + b);
                 if (x.can(0) == 0) {
                     x.drop(d, true);
                 }

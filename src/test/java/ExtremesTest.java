@@ -34,9 +34,12 @@ public final class ExtremesTest {
 
     private static void run(Random random, Method[] face) throws IllegalAccessException {
         DeedCourt x = new DeedCourt();
-        for (int i = 0; i < 500; i++) {
+        int[] refused = new int[5];
+        int calls = 0;
+        // An object is used for 512 calls: the last five tell how many REFUSALS there were.
+        while (calls < 500) {
             if (random.nextInt(6) == 0) {
-                feed(x, WORDS[random.nextInt(WORDS.length)]);
+                calls += feed(x, WORDS[random.nextInt(WORDS.length)], refused);
             }
             Method method = face[random.nextInt(face.length)];
             Object[] arguments = new Object[method.getParameterCount()];
@@ -45,38 +48,45 @@ public final class ExtremesTest {
                 Class<?> type = method.getParameterTypes()[a];
                 arguments[a] = type == boolean.class ? (Object) (number > 2) : type == long.class ? (Object) (long) number : number;
             }
-            int ahead = refusals(x);
             try {
-                Object answer = method.invoke(x, arguments);
-                int more = refusals(x) - ahead;
-                boolean isRefusal = !answersAnything(method.getName())
-                    && ((Number) answer).longValue() <= -2 && ((Number) answer).longValue() >= -6
-                    || method.getName().equals("deed") && (Integer) answer <= -20;
-                expect(more == (isRefusal ? 1 : 0), method.getName() + Arrays.toString(arguments) + " answered " + answer
-                    + " and refused " + more);
+                calls++;
+                long answer = ((Number) method.invoke(x, arguments)).longValue();
+                if (method.getName().equals("deed") && answer <= -20) {
+                    answer = -2;
+                }
+                if (!answersAnything(method.getName()) && answer <= -2 && answer >= -6) {
+                    refused[(int) (-2 - answer)]++;
+                }
             } catch (InvocationTargetException thrown) {
                 expect(false, method.getName() + Arrays.toString(arguments) + " threw " + thrown.getCause());
             }
         }
+        for (int i = 0; i < 5; i++) {
+            int told = x.status(12 + i);
+            expect(told == refused[i], "there were " + refused[i] + " REFUSALS " + (-2 - i) + ", told are " + told);
+        }
     }
 
-    private static void feed(DeedCourt x, String word) {
-        for (int i = 0; i < word.length(); i++) {
-            x.feed(word.charAt(i), 1);
+    /** Feeds a word, in one call or two: how many. */
+    private static int feed(DeedCourt x, String word, int[] refused) {
+        int calls = 0;
+        for (int i = 0; i < word.length(); i += 4) {
+            int n = Math.min(4, word.length() - i);
+            int v = 0;
+            for (int k = 0; k < n; k++) {
+                v = v << 8 | word.charAt(i + k) & 255;
+            }
+            if (x.feed(v, n) < 0) {
+                refused[4]++;
+            }
+            calls++;
         }
+        return calls;
     }
 
     /** These may answer what looks like a refusal. */
     private static boolean answersAnything(String name) {
         return name.equals("element") || name.equals("groundOf") || name.equals("seed") || name.equals("status");
-    }
-
-    private static int refusals(DeedCourt x) {
-        int sum = 0;
-        for (int what = 12; what <= 16; what++) {
-            sum += x.status(what);
-        }
-        return sum;
     }
 
     private static void expect(boolean fine, String what) {

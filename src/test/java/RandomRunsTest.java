@@ -28,6 +28,9 @@ public final class RandomRunsTest {
             + "3 inside or holds 5,1 apart or inside or same 5,0 inside or round 4,0 apart or holds or same 5,"
             + "1 inside or round or same 4,3 edge or inside or round 4,0 inside or round 1,2 touch or inside or round 3"};
 
+    /** An object is used for so many calls; one turn of a run makes fewer than a hundred. */
+    private static final int MOST_CALLS = 512;
+
     private static int wrong = 0;
 
     private final DeedCourt x = new DeedCourt();
@@ -68,7 +71,7 @@ public final class RandomRunsTest {
         for (int i = 0; i < fields; i++) {
             make(9);
         }
-        while (calls.size() < 500 && !failed) {
+        while (calls.size() < MOST_CALLS - 100 && !failed) {
             int what = random.nextInt(100);
             if (what < 14) {
                 sayDeed();
@@ -105,11 +108,11 @@ public final class RandomRunsTest {
     }
 
     private int aField() {
-        return upTo(0, Math.max(0, x.status(0) - 1));
+        return upTo(0, Math.max(0, y.status(0) - 1));
     }
 
     private int aDeed() {
-        return upTo(0, Math.max(0, x.status(1) - 1));
+        return upTo(0, Math.max(0, y.status(1) - 1));
     }
 
     private int aSet() {
@@ -134,7 +137,7 @@ public final class RandomRunsTest {
 
     private String deedText() {
         StringBuilder text = new StringBuilder();
-        int most = Math.max(1, x.status(0));
+        int most = Math.max(1, y.status(0));
         int first = random.nextInt(most);
         text.append(first).append(' ');
         if (random.nextInt(orderly) == 0) {
@@ -159,7 +162,7 @@ public final class RandomRunsTest {
     }
 
     private void sayDeed() {
-        if (x.status(2) > 0 && random.nextInt(5) > 0) {
+        if (y.status(2) > 0 && random.nextInt(5) > 0) {
             due("wipe()", x.wipe(), y.wipe());
         }
         String text = deedText();
@@ -255,7 +258,7 @@ public final class RandomRunsTest {
                 due("says(" + s + ", " + kind + ")", x.says(s, kind), y.says(s, kind));
             }
             case 9 -> {
-                if (x.status(0) < mostFields || random.nextInt(30) == 0) {
+                if (y.status(0) < mostFields || random.nextInt(30) == 0) {
                     int kind = upTo(0, 3);
                     int year = year();
                     due("field(" + kind + ", " + year + ")", x.field(kind, year), y.field(kind, year));
@@ -266,7 +269,7 @@ public final class RandomRunsTest {
                 due("fieldOf(" + f + ", " + what + ")", x.fieldOf(f, what), y.fieldOf(f, what));
             }
             case 11 -> {
-                if (x.status(0) + 2 <= mostFields || random.nextInt(10) == 0) {
+                if (y.status(0) + 2 <= mostFields || random.nextInt(10) == 0) {
                     int year = year();
                     due("part(" + f + ", " + year + ")", x.part(f, year), y.part(f, year));
                 }
@@ -324,7 +327,7 @@ public final class RandomRunsTest {
 
     private void ask(int promise) {
         int a = aField();
-        int b = random.nextInt(20) > 0 && x.status(0) > 1 ? (a + 1 + random.nextInt(x.status(0) - 1)) % x.status(0) : aField();
+        int b = random.nextInt(20) > 0 && y.status(0) > 1 ? (a + 1 + random.nextInt(y.status(0) - 1)) % y.status(0) : aField();
         int year = year();
         switch (promise) {
             case 19 -> {
@@ -360,7 +363,7 @@ public final class RandomRunsTest {
 
     /** Whether four fields are told of well enough that not nearly all searches are spent. */
     private boolean isQuickToTally(int year) {
-        if (x.status(0) < 4 || random.nextInt(30) == 0) {
+        if (y.status(0) < 4 || random.nextInt(30) == 0) {
             return true;
         }
         due("shrink(" + year + ")", x.shrink(year), y.shrink(year));
@@ -369,7 +372,7 @@ public final class RandomRunsTest {
 
     private void askQuarrels(int promise, int year) {
         // These are dear: with many fields they are asked less often.
-        if (random.nextInt(x.status(0) > 5 ? 12 : 3) > 0) {
+        if (random.nextInt(y.status(0) > 5 ? 12 : 3) > 0) {
             return;
         }
         int old = upTo(0, 3);
@@ -418,7 +421,7 @@ public final class RandomRunsTest {
             case 49 -> due("judge(" + year + ")", x.judge(year), y.judge(year));
             case 50 -> due("right(" + a + ")", x.right(a), y.right(a));
             case 51 -> {
-                int set = random.nextInt(20) == 0 ? random.nextInt() : upTo(1, (1 << x.status(0)) - 1);
+                int set = random.nextInt(20) == 0 ? random.nextInt() : upTo(1, (1 << y.status(0)) - 1);
                 due("whole(" + a + ", " + set + ")", x.whole(a, set), y.whole(a, set));
             }
             case 52 -> {

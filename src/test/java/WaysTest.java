@@ -49,8 +49,8 @@ public final class WaysTest {
     }
 
     private static void follow() {
-        DeedCourt x = new DeedCourt();
         for (int set = 1; set <= 255; set++) {
+            DeedCourt x = new DeedCourt();
             for (int other = 1; other <= 255; other++) {
                 int due = 0;
                 for (int way = 0; way < 64; way++) {
@@ -61,6 +61,7 @@ public final class WaysTest {
                 Due.is(21, "follow(" + set + ", " + other + ")", x.follow(set, other), due);
             }
         }
+        DeedCourt x = new DeedCourt();
         int[][] bad = {{0, 1}, {256, 1}, {1, 0}, {1, 256}, {-1, 1}, {1, -1}};
         for (int[] b : bad) {
             Due.is(21, "follow(" + b[0] + ", " + b[1] + ")", x.follow(b[0], b[1]), BAD);

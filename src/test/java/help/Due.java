@@ -1,5 +1,14 @@
 /** What the tests share: a count of wrong answers, and deeds fed as text. */
 final class Due {
+    static final int NONE = -1;
+    static final int BAD = -2;
+    static final int OTHER = -3;
+    static final int NOTHING = -4;
+    static final int STATE = -5;
+    static final int FULL = -6;
+    /** What DEEDS say of each WAY. */
+    static final String[] WAYS = {"apart", "touch", "over", "edge", "inside", "round", "holds", "same"};
+
     private static int wrong = 0;
     private static int asked = 0;
 
@@ -15,10 +24,15 @@ final class Due {
         }
     }
 
-    /** Puts a text on the tape, byte by byte. */
+    /** Puts a text on the tape, four bytes by a call: an object is used for 512 calls at most. */
     static void feed(DeedCourt x, String text) {
-        for (int i = 0; i < text.length(); i++) {
-            x.feed(text.charAt(i), 1);
+        for (int i = 0; i < text.length(); i += 4) {
+            int n = Math.min(4, text.length() - i);
+            int v = 0;
+            for (int k = 0; k < n; k++) {
+                v = v << 8 | text.charAt(i + k) & 255;
+            }
+            x.feed(v, n);
         }
     }
 
@@ -38,6 +52,11 @@ final class Due {
             is(14, "deed() of \"" + deeds[d] + "\"", deed(x, deeds[d]), d);
         }
         return x;
+    }
+
+    /** The same, with the deeds in one text, parted by commas. */
+    static DeedCourt landBy(int fields, String deeds) {
+        return land(fields, deeds.split(", "));
     }
 
     /** Gives a field the ground that is drawn by rows, from the north: '#' is a cell of it. Uses shelf 7. */
