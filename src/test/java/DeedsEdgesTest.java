@@ -18,10 +18,12 @@ public final class DeedsEdgesTest {
         oldNumbers();
         bytes();
         words();
+        letters();
         blanks();
         tooEarly();
         order();
         fullTapes();
+        behindFaults();
         deedsFull();
         lets();
         oldWords();
@@ -252,6 +254,24 @@ public final class DeedsEdgesTest {
         fault("0over1year9weight9 9", 19);
     }
 
+    /** A WORD of which one letter is another one is none of those that can stand there. */
+    private static void letters() {
+        String[][] words = {{"0 ", "apart", " 1"}, {"0 ", "touch", " 1"}, {"0 ", "over", " 1"}, {"0 ", "edge", " 1"},
+            {"0 ", "inside", " 1"}, {"0 ", "round", " 1"}, {"0 ", "holds", " 1"}, {"0 ", "same", " 1"}, {"0 ", "within", " 1"},
+            {"0 ", "north", " 1"}, {"0 ", "east", " 1"}, {"0 ", "larger", " 1"}, {"0 ", "not", " over 1"},
+            {"0 over ", "or", " edge 1"}, {"0 ", "old", " 2 1"}, {"0 over 1 ", "year", " 3"}, {"0 over 1 ", "weight", " 3"}};
+        for (String[] w : words) {
+            fine(w[0] + w[1] + w[2]);
+            for (int i = 0; i < w[1].length(); i++) {
+                char right = w[1].charAt(i);
+                // The letter ahead of it, the one behind it, the great one; 'x' is in none of them.
+                for (char c : new char[] {(char) (right - 1), (char) (right + 1), (char) (right - 32), 'x'}) {
+                    fault(w[0] + w[1].substring(0, i) + c + w[1].substring(i + 1) + w[2], w[0].length());
+                }
+            }
+        }
+    }
+
     /** "blanks (32) may stand between", ahead and behind, none or many. */
     private static void blanks() {
         fine("0over1");
@@ -328,6 +348,27 @@ public final class DeedsEdgesTest {
         Due.is(14, "a full one", Due.deed(x, wide("0 over", "1", 80)), 0);
         Due.is(14, "a shorter one", Due.deed(x, "0 over"), -26);
         Due.is(14, "an empty one", x.deed(), -20);
+    }
+
+    /** A DEED has nothing of what was read ahead of the FAULT of another one. */
+    private static void behindFaults() {
+        String[] faults = {"2 over 0 year 9 weight 9 ?", "0 not edge 0", "0 not old 3 or", "0 old 3 or same or old 0 0", "2 north 2",
+            "0 larger 1 year 1000", "0 within 1 year 5 weight 0", "0 east 1 weight 7 year 3", "2", ""};
+        int[] due = {1, 0, 0, 1, NONE, 2, 0};
+        DeedCourt all = Due.land(3);
+        for (String fault : faults) {
+            DeedCourt x = Due.land(3);
+            Due.is(14, "\"" + fault + "\" has a FAULT", Due.deed(x, fault) <= -20 ? 1 : 0, 1);
+            Due.is(14, "the DEED behind it", Due.deed(x, "1 touch 0"), 0);
+            x.mean(0, 3);
+            x.mean(3, 3);
+            for (int what = 0; what < due.length; what++) {
+                Due.is(15, "behind \"" + fault + "\": deedOf(0, " + what + ")", x.deedOf(0, what), due[what]);
+            }
+            Due.deed(all, fault);
+        }
+        Due.is(60, "each FAULT is BAD", all.status(12), faults.length);
+        Due.is(60, "none is a DEED", all.status(1), 0);
     }
 
     private static String wide(String ahead, String behind, int size) {

@@ -65,6 +65,10 @@ public final class DrawsEdgesTest {
         for (int seed = -40; seed <= 40; seed++) {
             land(seed * 53000111);
         }
+        // Here the first box, the second, the third ends in row 7, or in column 7, and by one less lay otherwise.
+        for (int seed : new int[] {213, 138, 89, 5, 419, 722}) {
+            land(seed);
+        }
     }
 
     private static void land(int seed) {

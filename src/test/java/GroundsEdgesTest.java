@@ -24,6 +24,7 @@ public final class GroundsEdgesTest {
         rightField();
         rightPiece();
         rightDisc();
+        oneCellOut();
         rightBox();
         rightGone();
         whole();
@@ -335,6 +336,21 @@ public final class GroundsEdgesTest {
         right(2, false, "## #", "# ##", "####");
         right(2, false, ALL, "# ######", "## #####", ALL, ALL, ALL, ALL, ALL);
         right(2, true, "# ######", "# ######", ALL, ALL, ALL, ALL, ALL, ALL);
+    }
+
+    /** "to a cell of row 0 or 7, or column 0 or 7": the whole board but one cell, whichever. */
+    private static void oneCellOut() {
+        for (int out = 0; out < 64; out++) {
+            DeedCourt x = new DeedCourt();
+            x.field(2, 0);
+            x.row(0, 4, 64);
+            for (int i = 0; i < 64; i++) {
+                x.set(0, i, i == out ? 0 : 1);
+            }
+            Due.is(46, "all but cell " + out, x.ground(0, 0), 63);
+            boolean isRim = out < 8 || out >= 56 || out % 8 == 0 || out % 8 == 7;
+            Due.is(50, "a DISC, all but cell " + out, x.right(0), isRim ? 1 : 0);
+        }
     }
 
     /** "BOX: a DISC that is all cells of some rows and columns without a gap". */

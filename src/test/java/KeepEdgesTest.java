@@ -15,6 +15,9 @@ public final class KeepEdgesTest {
         allIsKept();
         fullIsKept();
         searches();
+        searchesGoOn();
+        oldWords();
+        numbersAnew();
         imageAnew();
         status();
         lastCalls();
@@ -237,6 +240,98 @@ public final class KeepEdgesTest {
         hard.back();
         Due.is(59, "SPENT", hard.search(3), 3);
         Due.is(56, "SPENT", hard.step(1), STATE);
+    }
+
+    /** A SEARCH that was kept goes on as if nothing had been between, whatever had. */
+    private static void searchesGoOn() {
+        for (int made = 0; made <= 24; made += 4) {
+            for (int between = 0; between < 4; between++) {
+                DeedCourt due = beginHard(made);
+                DeedCourt x = beginHard(made);
+                x.image();
+                if (between == 1) {
+                    x.step(9);
+                } else if (between == 2) {
+                    x.begin(1);
+                    x.step(20);
+                } else if (between == 3) {
+                    x.field(0, 0);
+                    x.drop(3, true);
+                    x.begin(0);
+                    x.step(999);
+                }
+                x.back();
+                for (int i = 0; i < 40; i++) {
+                    Due.is(59, "step", x.step(1), due.step(1));
+                    for (int what = 0; what <= 4; what++) {
+                        Due.is(59, "search(" + what + "), kept at " + made, x.search(what), due.search(what));
+                    }
+                }
+            }
+        }
+    }
+
+    /** Four that can't be, and one ahead of them; in the YEAR 1 more is said. So many CHOICES are made. */
+    private static DeedCourt beginHard(int made) {
+        DeedCourt x = Hard.land(1);
+        Due.deed(x, "0 same 1 year 1");
+        x.begin(0);
+        if (made > 0) {
+            x.step(made);
+        }
+        return x;
+    }
+
+    /** Each OLD WORD, 0 to 3. */
+    private static void oldWords() {
+        DeedCourt x = new DeedCourt();
+        for (int word = 0; word < 4; word++) {
+            x.mean(word, 7 - word);
+        }
+        x.image();
+        for (int word = 0; word < 4; word++) {
+            x.mean(word, NONE);
+        }
+        x.back();
+        for (int word = 0; word < 4; word++) {
+            Due.is(59, "OLD WORD " + word, x.mean(word, word), 7 - word);
+        }
+        x.back();
+        for (int word = 0; word < 4; word++) {
+            Due.is(59, "once more", x.mean(word, NONE), 7 - word);
+        }
+    }
+
+    /** Numbers that are free again are taken anew; of what had them nothing is left. */
+    private static void numbersAnew() {
+        DeedCourt x = Due.land(2, "0 over 1");
+        x.image();
+        x.field(3, 5);
+        Due.draw(x, 2, "##");
+        x.part(2, 9);
+        Due.draw(x, 3, "#");
+        Due.draw(x, 4, " #");
+        Due.deed(x, "4 not old 1 or edge 3 year 7 weight 9");
+        x.drop(1, true);
+        Due.deed(x, "1 north 0 year 3");
+        x.drop(2, true);
+        x.weigh(2, 50);
+        x.back();
+        int[] field = {1, 8, NONE, NONE};
+        for (int f = 2; f <= 4; f++) {
+            Due.is(9, "the number is free again", x.field(1, 8), f);
+            for (int what = 0; what < field.length; what++) {
+                Due.is(10, "FIELD " + f + " anew", x.fieldOf(f, what), field[what]);
+            }
+            Due.is(47, "no GROUND at first", x.groundOf(f), 0);
+        }
+        int[] deed = {1, 0, 0, 1, NONE, 2, 0};
+        for (int d = 1; d <= 2; d++) {
+            Due.is(14, "the number is free again", Due.deed(x, "1 touch 0"), d);
+            for (int what = 0; what < deed.length; what++) {
+                Due.is(15, "DEED " + d + " anew", x.deedOf(d, what), deed[what]);
+            }
+        }
     }
 
     /** What was kept last counts; what came behind it doesn't touch it. */

@@ -166,16 +166,18 @@ public final class QuarrelsEdgesTest {
 
     /** "what is part of one that CAN be CAN be, and isn't looked at": so it isn't SPENT. */
     private static void notLookedAt() {
-        DeedCourt x = Late.fewDeeds();
-        Due.is(25, "all of them CAN be", x.can(0), 1);
-        expect("all of them CAN be", x, 0, 0, 0, 0, 1);
-        Due.is(37, "word", x.word(3, 0), 0);
-        Due.is(60, "nothing is refused", x.status(15), 0);
-        x.drop(6, true);
-        Due.is(25, "without the last one: SPENT", x.can(0), STATE);
-        expect("without the last one: SPENT", x, 0, STATE, STATE, STATE, STATE);
-        Due.is(37, "word", x.word(3, 0), STATE);
-        Due.is(60, "STATE", x.status(15), 7);
+        for (int d = 0; d < 7; d++) {
+            DeedCourt x = Late.fewDeeds(d);
+            Due.is(25, "all of them CAN be", x.can(0), 1);
+            expect("all of them CAN be", x, 0, 0, 0, 0, 1);
+            Due.is(37, "word", x.word(3, 0), 0);
+            Due.is(60, "nothing is refused", x.status(15), 0);
+            x.drop(d, true);
+            Due.is(25, "without DEED " + d + ": SPENT", x.can(0), STATE);
+            expect("without DEED " + d + ": SPENT", x, 0, STATE, STATE, STATE, STATE);
+            Due.is(37, "word", x.word(3, 0), STATE);
+            Due.is(60, "STATE", x.status(15), 7);
+        }
     }
 
     /** "if one that is looked at is SPENT: STATE", even if all of them CAN not be by a RING. */
@@ -213,7 +215,7 @@ public final class QuarrelsEdgesTest {
 
     /** "STATE likewise": SPENT for one WAY is enough, the first one or another. */
     private static void wordsSpent() {
-        // Late.fewDeeds() says last how 0 lies to 3; here another PAIR's WAY is an OLD WORD.
+        // Late.fewDeeds(6) says last how 0 lies to 3; here another PAIR's WAY is an OLD WORD.
         int[] six = {STATE, 0, 0, 0, 0, 0, 0, 0};
         int[] five = {0, 0, STATE, 0, STATE, 0, 0, 0};
         int[] four = {0, 0, 0, 0, 0, 0, 0, 0};
@@ -223,7 +225,7 @@ public final class QuarrelsEdgesTest {
     }
 
     private static void spentByWay(String deed, int[] doubts, int word) {
-        DeedCourt x = Late.fewDeeds();
+        DeedCourt x = Late.fewDeeds(6);
         x.drop(6, true);
         Due.deed(x, deed);
         for (int way = 0; way < 8; way++) {

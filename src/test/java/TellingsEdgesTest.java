@@ -11,6 +11,7 @@ public final class TellingsEdgesTest {
         fewFields();
         onePair();
         none();
+        noneThoughKnown();
         mostFields();
         years();
         most();
@@ -19,6 +20,7 @@ public final class TellingsEdgesTest {
         allAboutTheEnd();
         someSpent();
         mayAndMust();
+        mayOfEachPair();
         ringsAndSpent();
         settleFields();
         settleNone();
@@ -87,6 +89,28 @@ public final class TellingsEdgesTest {
         Due.is(27, "each is BLIND", hard.blind(0), 3);
         Due.is(25, "can", hard.can(0), 0);
         Due.is(29, "many", hard.many(0, 500), 0);
+    }
+
+    /** "NONE: there is none": of two FIELDS, too, that by what is left could lie to each other in one WAY alone. */
+    private static void noneThoughKnown() {
+        DeedCourt atOnce = Due.land(3, "0 inside 1", "1 inside 2", "2 touch 0");
+        DeedCourt late = Hard.land(2);
+        Due.deed(late, "0 same 1");
+        Due.is(24, "it is known", late.known(0, 1, 0), 128);
+        Due.is(27, "each CHOICE there is BLIND", late.blind(0) > 0 ? 1 : 0, 1);
+        for (int a = 0; a < 3; a++) {
+            for (int b = 0; b < 3; b++) {
+                if (a != b) {
+                    Due.is(28, "one is empty at once", atOnce.told(a, b, 0), NONE);
+                    Due.is(30, "one is empty at once", atOnce.may(a, b, 0), 0);
+                    Due.is(31, "one is empty at once", atOnce.must(a, b, 0), NONE);
+                    Due.is(28, "it ends later", late.told(a, b, 0), NONE);
+                }
+            }
+        }
+        Due.is(42, "lay", atOnce.lay(0), NONE);
+        Due.is(42, "lay", late.lay(0), NONE);
+        Due.is(31, "must", late.must(0, 1, 0), NONE);
     }
 
     private static void mostFields() {
@@ -195,6 +219,11 @@ public final class TellingsEdgesTest {
         Due.is(29, "438", y.many(0, 438), 438);
         Due.is(29, "the 439th comes with the 20,001st", y.many(0, 439), STATE);
         Due.is(29, "500", y.many(0, 500), STATE);
+        DeedCourt z = Late.next20001();
+        Due.is(29, "398", z.many(0, 398), 398);
+        Due.is(29, "the 399th comes with the 20,000th", z.many(0, 399), 399);
+        Due.is(29, "the next one would come with the 20,001st", z.many(0, 400), STATE);
+        Due.is(29, "500", z.many(0, 500), STATE);
     }
 
     /** "STATE: SPENT for one." */
@@ -226,6 +255,26 @@ public final class TellingsEdgesTest {
         DeedCourt two = Due.land(2, "0 apart or same 1");
         Due.is(30, "two", two.may(0, 1, 0), 129);
         Due.is(31, "two", two.must(0, 1, 0), NONE);
+    }
+
+    /** "All WAYS of a to b with which there is a TELLING": of each two, by a DEED more that says each WAY alone. */
+    private static void mayOfEachPair() {
+        String[] deeds = {"0 touch or inside 1", "1 within 2", "3 over or round 1", "2 not apart 4", "4 same or touch 3"};
+        for (int a = 0; a < 5; a++) {
+            for (int b = 0; b < 5; b++) {
+                int due = 0;
+                for (int way = 0; way < 8 && a != b; way++) {
+                    DeedCourt said = Due.land(5, deeds);
+                    Due.deed(said, a + " " + Due.WAYS[way] + " " + b);
+                    due |= said.can(0) << way;
+                }
+                DeedCourt x = Due.land(5, deeds);
+                boolean isOne = Integer.bitCount(due) == 1;
+                Due.is(30, "may(" + a + ", " + b + ")", x.may(a, b, 0), a == b ? BAD : due);
+                Due.is(31, "must(" + a + ", " + b + ")", x.must(a, b, 0),
+                    a == b ? BAD : isOne ? Integer.numberOfTrailingZeros(due) : NONE);
+            }
+        }
     }
 
     /** "no RING of any ORDER (with one no SEARCH is made)": so none is SPENT. */

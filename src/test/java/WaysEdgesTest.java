@@ -18,6 +18,7 @@ public final class WaysEdgesTest {
         fewFields();
         emptySets();
         manyFields();
+        eachPair();
         Due.end("WaysEdgesTest");
     }
 
@@ -219,6 +220,20 @@ public final class WaysEdgesTest {
         Due.is(22, "the others have all", far.ways(0, 1, 0), 255);
         Due.is(24, "0, also if another one is empty", far.known(0, 1, 0), 0);
         Due.is(23, "one is empty", far.shrink(0), NONE);
+    }
+
+    /** "Of how many PAIRS the SET SHRUNK has fewer WAYS": each of the 45 alone, to the first and to the last. */
+    private static void eachPair() {
+        for (int b = 1; b < 10; b++) {
+            for (int a = 0; a < b; a++) {
+                int c = a > 0 ? 0 : b > 1 ? 1 : 2;
+                DeedCourt x = Due.land(10, a + " inside " + c, c + " inside " + b);
+                Due.is(23, "of " + a + " and " + b + " alone", x.shrink(0), 1);
+                Due.is(22, "nothing is said of these", x.ways(a, b, 0), 255);
+                Due.is(24, "it follows", x.known(a, b, 0), 16);
+                Due.is(24, "it follows, TURNED", x.known(b, a, 0), 64);
+            }
+        }
     }
 
     /** Of ten FIELDS, 45 PAIRS: what follows along all of them. */

@@ -67,6 +67,15 @@ final class Late {
             + "5 edge or round 6");
     }
 
+    /** The 399th TELLING is FOUND with the 20,000th, the next one would be with the 20,001st: SPENT ahead of that. */
+    static DeedCourt next20001() {
+        return Due.landBy(8, "0 not touch or holds 1, 0 not same 2, 1 edge or round or same 2, 1 inside or holds or same 3, "
+            + "2 not edge or inside 3, 0 not apart or inside or round 4, 1 not touch or edge or inside 4, "
+            + "0 apart or edge or round or same 5, 1 inside or holds or same 5, 3 not touch or edge 5, 4 not apart 5, "
+            + "0 not inside 6, 1 edge or round or same 6, 3 not touch or same 6, 5 apart or inside or holds 6, "
+            + "0 inside or holds 7, 1 not over or inside or holds 7, 4 inside or holds or same 7, 5 edge or round 7");
+    }
+
     /** The first TELLING is FOUND with the 20,000th; with some WAYS of 0 to 4 a SEARCH is SPENT, with others FOUND. */
     static DeedCourt someSpent() {
         return Due.landBy(8, "0 over or inside or holds 1, 1 edge or holds 2, 0 not same 3, 1 over or inside or holds 3, "
@@ -77,9 +86,14 @@ final class Late {
             + "6 apart or edge or round or same 7");
     }
 
-    /** Seven DEEDS with which it CAN be; without the last one the SEARCH is SPENT. */
-    static DeedCourt fewDeeds() {
-        return Due.landBy(7, "0 not inside 5, 2 inside or holds 5, 3 inside or round or same 5, 0 inside or holds 6, "
-            + "2 edge or round 6, 5 edge or round 6, 0 over 3");
+    /** Seven DEEDS with which it CAN be; without the one that is said at a place (0 to 6) the SEARCH is SPENT. */
+    static DeedCourt fewDeeds(int place) {
+        String[] others = {"0 not inside 5", "2 inside or holds 5", "3 inside or round or same 5", "0 inside or holds 6",
+            "2 edge or round 6", "5 edge or round 6"};
+        String[] deeds = new String[others.length + 1];
+        for (int d = 0; d < deeds.length; d++) {
+            deeds[d] = d == place ? "0 over 3" : others[d < place ? d : d - 1];
+        }
+        return Due.land(7, deeds);
     }
 }
