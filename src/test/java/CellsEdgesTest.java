@@ -14,6 +14,7 @@ public final class CellsEdgesTest {
         mates();
         mostCells();
         stays();
+        greaterAhead();
         fieldsThatCame();
         rings();
         years();
@@ -135,6 +136,40 @@ public final class CellsEdgesTest {
         Due.is(45, "what was laid stays", hard.laid(5, 6), 0);
         Due.is(44, "what was laid stays", hard.mate(8), NONE);
         Due.is(60, "STATE", hard.status(15), 2);
+    }
+
+    /** "what was laid last": of the CELLS of a greater land that was laid ahead of it nothing is left. */
+    private static void greaterAhead() {
+        DeedCourt x = Due.land(2, "0 touch 1");
+        Due.is(42, "two and two MATES", x.lay(0), 4);
+        x.field(0, 0);
+        x.drop(0, true);
+        Due.is(42, "three, all APART", x.lay(0), 3);
+        for (int a = 0; a < 3; a++) {
+            for (int b = 0; b < 3; b++) {
+                Due.is(43, "CELL " + a + " in " + b, x.cell(a, b), a == b ? 1 : 0);
+                Due.is(45, "APART: " + a + ", " + b, x.laid(a, b), a == b ? BAD : 0);
+            }
+        }
+        Due.is(44, "no MATE", x.mate(2), NONE);
+        Due.is(44, "what was the MATE of 2", x.mate(3), BAD);
+        // Of 0 and 1 by EDGE, 1 had the MATE of CELL 2; INSIDE it has none.
+        String[] ways = {"edge", "round"};
+        for (int i = 0; i < 2; i++) {
+            DeedCourt y = Due.land(2, "0 " + ways[i] + " 1", "0 not " + ways[i] + " 1");
+            y.drop(1, true);
+            Due.is(42, ways[i], y.lay(0), 4);
+            y.drop(0, true);
+            y.drop(1, false);
+            Due.deed(y, "0 inside or holds 1");
+            y.field(0, 0);
+            Due.deed(y, "2 apart 0");
+            Due.is(42, "INSIDE, and one APART", y.lay(0), 3);
+            Due.is(45, "INSIDE", y.laid(0, 1), 4);
+            Due.is(45, "HOLDS", y.laid(1, 0), 6);
+            Due.is(45, "told", y.told(0, 2, 0), y.laid(0, 2));
+            Due.is(45, "told", y.told(1, 2, 0), y.laid(1, 2));
+        }
     }
 
     /** What was laid last says nothing of FIELDS that came behind it. */

@@ -28,6 +28,7 @@ public final class GroundsEdgesTest {
         rightBox();
         rightGone();
         whole();
+        wholeOfEachTwo();
         Due.end("GroundsEdgesTest");
     }
 
@@ -446,5 +447,29 @@ public final class GroundsEdgesTest {
         Due.draw(x, 3, "", "", "", "", "", "", "", "      ##");
         Due.is(51, "two share one cell", x.whole(0, 10), 0);
         Due.is(51, "an empty set", x.whole(0, 0), BAD);
+    }
+
+    /** "and no two share a cell": whichever two of them, though they are together that of the FIELD. */
+    private static void wholeOfEachTwo() {
+        DeedCourt x = Due.land(6);
+        Due.draw(x, 0, "#####");
+        String[] own = {"", "#", " #", "  #", "   #", "    #"};
+        for (int f = 1; f < 6; f++) {
+            Due.draw(x, f, own[f]);
+        }
+        Due.is(51, "each has its own", x.whole(0, 62), 1);
+        for (int a = 1; a < 6; a++) {
+            for (int b = 1; b < 6; b++) {
+                if (a != b) {
+                    StringBuilder both = new StringBuilder("     ");
+                    both.setCharAt(a - 1, '#');
+                    both.setCharAt(b - 1, '#');
+                    Due.draw(x, a, both.toString());
+                    Due.is(51, a + " has a cell of " + b, x.whole(0, 62), 0);
+                    Due.is(51, "without " + b + " no two share one", x.whole(0, 62 - (1 << b)), 1);
+                    Due.draw(x, a, own[a]);
+                }
+            }
+        }
     }
 }
